@@ -81,6 +81,7 @@ public final class KeepersAndVehiclesTest {
         Check.fails("5: kind before room", Check.ARGUMENT, () -> x.register(0, 'x'));
         Check.fails("5: keeper before room", Check.INDEX, () -> x.register(12, 'c'));
         Check.same("5: still 15", x.vehicles(), 15);
+        Check.fails("11: vehicle 15 of 15", Check.INDEX, () -> x.kindOf(15));
         Check.same("5: still 15 plates", x.plates(), 15);
         registerWithoutPlates();
     }

@@ -111,6 +111,8 @@ public final class LiensAndPlatesTest {
         Check.same("29: had", x.putOn(0, 1), 1);
         Check.same("29: has", x.plateOn(1, 3), 0);
         Check.same("29: replaced", x.plateState(1), 'x');
+        Check.fails("29: replaced today", Check.STATE, () -> x.vehicleWith(1, 3));
+        Check.same("29: on it until yesterday", x.vehicleWith(1, 2), 1);
         Check.same("29: on a vehicle", x.plateState(0), 'v');
         Check.fails("29: not kept any more", Check.UNSUPPORTED, () -> x.putOn(0, 0));
         Check.fails("29: void", Check.UNSUPPORTED, () -> x.putOn(1, 0));

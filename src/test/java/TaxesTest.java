@@ -171,6 +171,9 @@ public final class TaxesTest {
         Check.same("41: a last one", x.mostOwing(), 1);
         x.pay(1, 1);
         Check.fails("41: all is paid", Check.NO_ELEMENT, x::mostOwing);
+        x.register(0, 'm');
+        x.register(3, 'm');
+        Check.same("41: the first keeper", x.mostOwing(), 0);
     }
 
     private static void roadShare() {
