@@ -26,6 +26,27 @@ final class Check {
         }
     }
 
+    static void sameText(String what, String got, String due) {
+        checks++;
+        if (!got.equals(due)) {
+            report(what + firstOther(got, due));
+        }
+    }
+
+    private static String firstOther(String got, String due) {
+        String[] gotLines = got.split("\n");
+        String[] dueLines = due.split("\n");
+        int line = 0;
+        while (line < gotLines.length && line < dueLines.length && gotLines[line].equals(dueLines[line])) {
+            line++;
+        }
+        return " " + lineOf(gotLines, line) + ", due is " + lineOf(dueLines, line);
+    }
+
+    private static String lineOf(String[] lines, int line) {
+        return line < lines.length ? lines[line] : "nothing more";
+    }
+
     static void holds(String what, boolean got) {
         same(what, got ? 1 : 0, 1);
     }

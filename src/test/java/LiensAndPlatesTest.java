@@ -183,11 +183,12 @@ public final class LiensAndPlatesTest {
         x.pass(7);
         x.register(0, 'c');
         x.keepPlate(0);
-        for (int day = 7; day < 368; day++) {
+        for (int day : new int[] {7, 8, 100, 366, 367}) {
+            Check.passTo(x, day);
             Check.same("32: day " + day, x.daysKept(0), 368 - day);
             Check.same("31: day " + day, x.plateState(0), 'k');
-            x.pass(1);
         }
+        Check.passTo(x, 368);
         Check.same("31: void", x.plateState(0), 'x');
         Check.fails("32: void", Check.STATE, () -> x.daysKept(0));
         Check.fails("29: void", Check.UNSUPPORTED, () -> x.putOn(0, 0));

@@ -10,8 +10,10 @@ public final class SoundnessTest {
 
     public static void main(String[] args) throws ReflectiveOperationException {
         plateOnTwoVehicles();
+        plateOnTwoVehiclesAlone();
         placeOfPlateIsWrong();
         transfersOutOfOrder();
+        taxOfOneKeeperAlone();
         Check.end();
     }
 
@@ -22,6 +24,16 @@ public final class SoundnessTest {
         Check.holds("45: sound", x.isSound());
         numbers(x, "fleet", 1, "plates", "values")[0] = 0;
         Check.holds("45: a plate on two vehicles", !x.isSound());
+    }
+
+    /** The other plate is on none by both ways, so that nothing but the count of vehicles is wrong. */
+    private static void plateOnTwoVehiclesAlone() throws ReflectiveOperationException {
+        PlateRegister x = Check.withKeepers(1);
+        x.register(0, 'c');
+        x.register(0, 'c');
+        numbers(x, "fleet", 1, "plates", "values")[0] = 0;
+        numbers(x, "issued", 1, "places", "values")[0] = -1;
+        Check.holds("45: a plate on two vehicles, all else right", !x.isSound());
     }
 
     private static void placeOfPlateIsWrong() throws ReflectiveOperationException {
@@ -45,6 +57,20 @@ public final class SoundnessTest {
         Check.holds("45: still sound", x.isSound());
         numbers(x, "fleet", 0, "keepers", "days")[1] = 70;
         Check.holds("45: the ways to the tax differ", !x.isSound());
+    }
+
+    /** By halving, the tax is the first keeper's; by going, it is nobody's. */
+    private static void taxOfOneKeeperAlone() throws ReflectiveOperationException {
+        PlateRegister x = Check.withKeepers(2);
+        x.register(0, 'c');
+        for (int i = 0; i < 2; i++) {
+            x.sell(i, 0, 1 - i, 0);
+            x.buy(1 - i, 0, 0);
+        }
+        x.pass(80);
+        Check.holds("45: sound so far", x.isSound());
+        numbers(x, "fleet", 0, "keepers", "days")[0] = 70;
+        Check.holds("45: the tax of the first keeper alone", !x.isSound());
     }
 
     private static int[] numbers(PlateRegister register, String row, int index, String line, String part)
